@@ -693,7 +693,8 @@ public final class LayeredChute {
             if (sharing < 1) {
                 return 0;
             }
-            long all = pull * (100 + 5 * Math.abs(slip)) / 100;
+            int slipped = slip < 0 ? -slip : slip;
+            long all = pull * (100 + 5 * slipped) / 100;
             return (all + sharing - 1) / sharing;
         }
 
@@ -816,7 +817,10 @@ public final class LayeredChute {
         }
 
         int distanceTo(int number, int x) {
-            return Math.max(0, Math.max(firsts[number] - x, x - lasts[number]));
+            if (x < firsts[number]) {
+                return firsts[number] - x;
+            }
+            return x > lasts[number] ? x - lasts[number] : 0;
         }
 
         int firstWith(int x) {
@@ -1255,7 +1259,8 @@ public final class LayeredChute {
         static final int NUMBER = 2;
         static final int MINUS = 3;
         static final int SEMICOLON = 4;
-        static final int FOREIGN = 5;
+        static final int BLANK = 5;
+        static final int FOREIGN = 6;
 
         static final int NOT_ALLOWED = 1;
         static final int OUT_OF_RANGE = 2;
@@ -1263,6 +1268,8 @@ public final class LayeredChute {
         static final int TOO_MANY = 4;
 
         final int[] bytes = new int[MOST_BYTES];
+        /** Of each byte the kind of token to which it can belong. */
+        final int[] kinds = new int[MOST_BYTES];
         int length;
         int code;
         int codePlace = NONE;
@@ -1291,8 +1298,29 @@ public final class LayeredChute {
                 int next = packed >>> shift & 255;
                 if (next != 0 && length < MOST_BYTES) {
                     bytes[length] = next;
+                    kinds[length] = kindOf(next);
                     length++;
                 }
+            }
+        }
+
+        private static int kindOf(int sign) {
+            if (sign >= 'a' && sign <= 'z') {
+                return WORD;
+            }
+            if (sign >= '0' && sign <= '9') {
+                return NUMBER;
+            }
+            switch (sign) {
+                case '-':
+                    return MINUS;
+                case ';':
+                    return SEMICOLON;
+                case ' ':
+                case '\n':
+                    return BLANK;
+                default:
+                    return FOREIGN;
             }
         }
 
@@ -1325,7 +1353,7 @@ public final class LayeredChute {
 
         void takeWord(String word) {
             if (!isAt(word)) {
-                failHere(NOT_ALLOWED);
+                failAt(start, NOT_ALLOWED);
             } else if (!hasFailed()) {
                 advance();
             }
@@ -1333,7 +1361,7 @@ public final class LayeredChute {
 
         void takeSemicolon() {
             if (kind != SEMICOLON) {
-                failHere(NOT_ALLOWED);
+                failAt(start, NOT_ALLOWED);
             } else if (!hasFailed()) {
                 advance();
             }
@@ -1341,9 +1369,9 @@ public final class LayeredChute {
 
         int takeNumber(int least, int most) {
             if (kind != NUMBER) {
-                failHere(NOT_ALLOWED);
+                failAt(start, NOT_ALLOWED);
             } else if (value < least || value > most) {
-                failHere(OUT_OF_RANGE);
+                failAt(start, OUT_OF_RANGE);
             }
             if (hasFailed()) {
                 return 0;
@@ -1393,47 +1421,34 @@ public final class LayeredChute {
         private void advance() {
             takenStart = start;
             start = end;
-            while (start < length && (bytes[start] == ' ' || bytes[start] == '\n')) {
+            while (start < length && kinds[start] == BLANK) {
                 start++;
             }
             end = start;
-            if (start == length) {
+            if (start >= length) {
                 kind = END;
                 return;
             }
-            int first = bytes[start];
-            if (isLetter(first)) {
-                kind = WORD;
-                while (end < length && isLetter(bytes[end])) {
+            kind = kinds[start];
+            end++;
+            if (kind == WORD) {
+                while (end < length && kinds[end] == WORD) {
                     end++;
                 }
-            } else if (isDigit(first)) {
-                kind = NUMBER;
-                value = 0;
-                while (end < length && isDigit(bytes[end])) {
-                    // Any number of digits is allowed: the value stays where no range reaches.
-                    value = Math.min(value * 10 + bytes[end] - '0', MOST_VALUE);
-                    end++;
+            } else if (kind == NUMBER) {
+                takeDigits();
+            }
+        }
+
+        /** Any number of digits is allowed: the value stays where no range reaches. */
+        private void takeDigits() {
+            value = bytes[start] - '0';
+            while (end < length && kinds[end] == NUMBER) {
+                if (value < MOST_VALUE) {
+                    value = value * 10 + bytes[end] - '0';
                 }
-            } else {
-                kind = kindOfSign(first);
                 end++;
             }
-        }
-
-        private static int kindOfSign(int sign) {
-            if (sign == '-') {
-                return MINUS;
-            }
-            return sign == ';' ? SEMICOLON : FOREIGN;
-        }
-
-        private static boolean isLetter(int sign) {
-            return sign >= 'a' && sign <= 'z';
-        }
-
-        private static boolean isDigit(int sign) {
-            return sign >= '0' && sign <= '9';
         }
     }
 
