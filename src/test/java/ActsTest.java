@@ -73,6 +73,7 @@ public class ActsTest {
         refused("P32 it has landed", 1, object, o -> o.tick(1));
         check.equal("P32 just so many", 1, Check.made("capsule 30 20 10;").tick(1));
         check.equal("P32 it lands ahead of them", 1, Check.made("capsule 30 20 10;").tick(2));
+        check.equal("P32 one metre is left ahead of the last one", 2, Check.made("capsule 31 20 10;").tick(200));
         LayeredChute high = Check.made("capsule 30000 0 1;");
         check.equal("P32 200 seconds", "200 200", high.tick(200) + " " + high.capsule(6));
         for (int seconds : new int[] {0, -1, 201, Integer.MIN_VALUE, Integer.MAX_VALUE}) {

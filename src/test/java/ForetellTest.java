@@ -9,8 +9,10 @@ public class ForetellTest {
     public static void main(String[] arguments) {
         ForetellTest test = new ForetellTest();
         test.lands();
+        test.eachByItself();
         test.hasLanded();
         test.takesLongerThan3000();
+        test.failsOrOpensBehind3000();
         test.failsIn();
         test.reserveIn();
         test.hottest();
@@ -62,6 +64,29 @@ public class ForetellTest {
         check.equal("P24 it drifts from then on", true, asking.capsule(2) > 0);
     }
 
+    /** An answer must not rest on what an earlier call foretold. */
+    private void eachByItself() {
+        LayeredChute object = Check.made("capsule 31 20 10;spot 0 0 39;");
+        check.equal("P25 by itself", 39, object.landSpeed());
+        object = Check.made("capsule 31 20 10;spot 0 0 39;");
+        check.equal("P26 by itself", 1, object.landResult());
+        object = Check.made("capsule 31 20 10;spot 0 0 39;");
+        check.equal("P24 by itself", 0, object.landAt());
+        object = Check.made("capsule 31 20 10;spot 0 0 39;");
+        check.equal("P31 by itself", 1, object.reachable());
+        object = Check.made("capsule 31 20 10;spot 0 0 39;");
+        check.equal("P30 by itself", 9, object.bestSlip(0));
+        LayeredChute moving = low();
+        check.equal("P25 ahead of a second", 29, moving.landSpeed());
+        moving.steer(1);
+        check.equal("P31 not with SLIP as it is", true, moving.reachable() > 0);
+        check.equal("P25 behind foretelling with other SLIPs", 29, moving.landSpeed());
+        moving.reachable();
+        check.equal("P24 behind foretelling with other SLIPs", 3, moving.landAt());
+        moving.reachable();
+        check.equal("P26 behind foretelling with other SLIPs", 2, moving.landResult());
+    }
+
     private void hasLanded() {
         LayeredChute object = low();
         object.steer(2);
@@ -97,6 +122,82 @@ public class ForetellTest {
         check.equal("P31 3000", 15, object.reachable());
         check.thrown("P24 changes nothing", java.util.NoSuchElementException.class, () -> feather(30000, "12 9999"),
                 o -> o.landAt());
+    }
+
+    private void failsOrOpensBehind3000() {
+        LayeredChute counted = coolFeather();
+        int torn = untilTorn(counted);
+        int all = torn;
+        while (counted.capsule(4) == 0 && all < torn + 20) {
+            all += counted.tick(1);
+        }
+        check.equal("a feather that tears late", true, torn > 3001 && counted.capsule(4) > 0);
+        LayeredChute object = coolFeather();
+        pass(object, torn - 3001);
+        check.equal("P27 3001", "-1 1", object.failsIn(0) + " " + object.chute(0, 5));
+        object.tick(1);
+        check.equal("P27 3000", 3000, object.failsIn(0));
+        object.tick(1);
+        check.equal("P27 2999", 2999, object.failsIn(0));
+        object = coolFeather();
+        pass(object, all - 3001);
+        check.equal("P29 3001", 0, object.hottest());
+        object.tick(1);
+        check.equal("P29 3000", counted.capsule(4), object.hottest());
+
+        LayeredChute reserved = reservedFeather();
+        int opened = 0;
+        while (reserved.chute(8, 5) == 0 && opened < 6000) {
+            opened += reserved.capsule(0) > 13000 ? reserved.tick(200) : reserved.tick(5);
+        }
+        while (reserved.chute(8, 5) == 1 && reserved.size(9) > 0) {
+            reserved.undo();
+            opened -= 5;
+        }
+        while (reserved.chute(8, 5) == 0 && opened < 6000) {
+            opened += reserved.tick(1);
+        }
+        check.equal("a reserve that opens late", true, opened > 3001 && reserved.chute(8, 5) == 1);
+        object = reservedFeather();
+        pass(object, opened - 3001);
+        check.equal("P28 3001", -1, object.reserveIn());
+        object.tick(1);
+        check.equal("P28 3000", 3000, object.reserveIn());
+        object.tick(1);
+        check.equal("P28 2999", 2999, object.reserveIn());
+    }
+
+    /** All its chutes tear at once in thick air; then it falls fast, and HEAT rises. */
+    private static LayeredChute coolFeather() {
+        LayeredChute object = Check.made("capsule 30000 5 4;"
+                + "layer 99 1 97 below 30000 under 400;".repeat(8) + "cool 0;");
+        for (int layer = 0; layer < 8; layer++) {
+            object.open(layer);
+        }
+        return object;
+    }
+
+    private static int untilTorn(LayeredChute object) {
+        int seconds = 0;
+        while (object.chute(0, 5) == 1 && seconds < 6000) {
+            seconds += object.tick(100);
+        }
+        object.undo();
+        seconds -= 100;
+        while (object.chute(0, 5) == 1 && seconds < 6000) {
+            seconds += object.tick(1);
+        }
+        return seconds;
+    }
+
+    /** A layer has failed; the reserve opens when the seven others have brought it down to its CEILING. */
+    private static LayeredChute reservedFeather() {
+        LayeredChute object = Check.made("capsule 30000 5 1;" + "layer 99 12 9999 below 30000 under 400;".repeat(7)
+                + "layer 1 1 1 below 30000 under 400 jammed;reserve 9 9 999 below 12000 after 1;target 30000 1;");
+        for (int layer = 0; layer < 8; layer++) {
+            object.open(layer);
+        }
+        return object;
     }
 
     private static void pass(LayeredChute object, int seconds) {

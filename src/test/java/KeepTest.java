@@ -15,6 +15,7 @@ public class KeepTest {
         test.output();
         test.undo();
         test.undoEachAct();
+        test.eventsComeBack();
         test.undoOfWhatIsNoAct();
         test.undoKeepsTheRest();
         test.save();
@@ -161,6 +162,46 @@ public class KeepTest {
         }
         check.equal("P42 " + what + ", left", Math.min(7, undoable), object.undo());
         check.equal("P42 " + what + " is undone", world, Check.world(object));
+    }
+
+    /** The latest 30 events push out the earliest ones: these must come back, too. */
+    private void eventsComeBack() {
+        StringBuilder setup = new StringBuilder("capsule 30000 40 99;");
+        for (int layer = 0; layer < 8; layer++) {
+            setup.append("layer 1 12 ").append(1 + layer).append(" below 30000 under 400;");
+        }
+        LayeredChute object = Check.made(setup.toString());
+        for (int layer = 0; layer < 8; layer++) {
+            object.open(layer);
+        }
+        String early = Check.events(object);
+        object.save(0);
+        object.tick(20);
+        List<String> events = new ArrayList<>();
+        for (int i = 0; i < 8; i++) {
+            events.add(Check.events(object));
+            check.equal("an act that is done", true, (i % 2 == 0 ? object.tick(3) : object.steer(i)) >= 0);
+        }
+        check.equal("there are more than 30 events", 30, object.size(8));
+        String late = Check.events(object);
+        object.save(1);
+        for (int i = 7; i >= 0; i--) {
+            object.undo();
+            check.equal("P42 the events come back, " + i, events.get(i), Check.events(object));
+        }
+        object.restore(0);
+        check.equal("P44 the early events", early, Check.events(object));
+        object.cut(0);
+        object.cut(1);
+        object.restore(1);
+        check.equal("P44 the late events", late, Check.events(object));
+        Check.load(object, "capsule 30 20 10;");
+        object.tick(1);
+        check.equal("other events", "0 6 -1 3", Check.events(object));
+        object.restore(0);
+        check.equal("P44 the early events behind another setup", early, Check.events(object));
+        object.restore(1);
+        check.equal("P44 the late events behind another setup", late, Check.events(object));
     }
 
     private void undoOfWhatIsNoAct() {

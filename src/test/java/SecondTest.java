@@ -45,6 +45,9 @@ public class SecondTest {
         LayeredChute object = Check.made("capsule 12000 400 99;");
         fallsTo("AIR is that ahead of the second", "11612 388 0 85 1", object);
         check.equal("GAIN takes the new SPEED and the old AIR", 105, object.size(15));
+        object = Check.made("capsule 399 95 36;");
+        fallsTo("BRAKE / MASS is just 5", "299 100 0 0 1", object);
+        check.equal("GAIN is just 10", 10, object.size(15));
     }
 
     private void brakes() {

@@ -103,6 +103,17 @@ public class StateTest {
         torn.openReserve();
         torn.tick(1);
         check.equal("P8 only layers count as failed", "2 1 0 0 0 20 0 2 7 4 16 9 7 0 30 0", size(torn));
+        String layer = "layer 1 1 9 below 390 under 400 jammed;";
+        LayeredChute many = Check.made("capsule 390 20 10;" + layer.repeat(8));
+        for (int number = 0; number < 8; number++) {
+            many.open(number);
+            check.equal("P8 failed layers", number + 1, many.size(7));
+        }
+        many.setTarget(390, 1);
+        check.equal("P8 eight layers and no more", 1, many.tick(1));
+        Check.load(many, "capsule 390 20 10;" + layer.repeat(3));
+        check.equal("P8 none of the earlier setup", "0 0 3", many.size(7) + " " + many.size(12) + " " + many.size(0));
+        check.equal("P39 none of the earlier setup", 3, many.jam(0, true));
         LayeredChute hot = Check.made("capsule 12000 400 99;");
         hot.tick(1);
         int gain = hot.size(15);

@@ -64,6 +64,31 @@ public class TextsTest {
         check.thrown("P2 a 601st byte", IllegalStateException.class, TextsTest::full,
                 o -> o.append(0, 0, 0, 0, 1));
         check.equal("P2 the text is read behind a refusal, too", "-1 1 0", answerOf(object));
+        appendInEachPlace();
+    }
+
+    private void appendInEachPlace() {
+        int[] counts = {4, 3, 2, 1};
+        int[] parts = {0x20202020, 0x00202020, 0x20000020, 0x00200000};
+        for (int place = 0; place < 5; place++) {
+            for (int i = 0; i < parts.length; i++) {
+                int[] packed = new int[5];
+                packed[place] = parts[i];
+                LayeredChute fits = filledTo(600 - counts[i]);
+                check.equal("P2 fits in place " + place, 600,
+                        fits.append(packed[0], packed[1], packed[2], packed[3], packed[4]));
+                LayeredChute object = filledTo(601 - counts[i]);
+                check.equal("P2 one too many in place " + place, "IllegalStateException", Check.outcome(
+                        o -> o.append(packed[0], packed[1], packed[2], packed[3], packed[4]), object));
+                check.equal("P2 none is taken", 601 - counts[i], object.append(0, 0, 0, 0, 0));
+            }
+        }
+    }
+
+    private static LayeredChute filledTo(int length) {
+        LayeredChute object = new LayeredChute();
+        Check.append(object, " ".repeat(length));
+        return object;
     }
 
     private static LayeredChute full() {
@@ -155,6 +180,9 @@ public class TextsTest {
         wrong(1, 3, " \n ");
         wrong(1, 0, "capsul 1 1 1;");
         wrong(1, 0, "capsules 1 1 1;");
+        wrong(1, 0, "xapsule 1 1 1;");
+        wrong(1, 0, "900 60 10;");
+        wrong(1, 0, "900 60 10 5;");
         wrong(1, 0, "Capsule 1 1 1;");
         wrong(1, 0, ";");
         wrong(1, 0, "layer 1 2 3 below 4 under 5;");
@@ -203,6 +231,18 @@ public class TextsTest {
         wrong(1, 46, HEAD + "layer 1 2 3 below 4 under 5 jam;");
         wrong(1, 38, HEAD + "layer 1 2 3 below 4 after 5;");
         wrong(1, 40, HEAD + "reserve 1 2 3 below 4 under 5;");
+        wrong(1, 30, HEAD + "layer 1 2 3 4 under 5;");
+        wrong(1, 38, HEAD + "layer 1 2 3 below 4 5;");
+        wrong(1, 40, HEAD + "reserve 1 2 3 below 4 5;");
+        wrong(1, 38, HEAD + "layer 1 2 3 below 4 xnder 5;");
+        wrong(1, 40, HEAD + "reserve 1 2 3 below 4 xfter 5;");
+        wrong(1, 46, HEAD + "layer 1 2 3 below 4 under 5 xammed;");
+        wrong(1, 18, HEAD + "xayer 1 2 3 below 4 under 5;");
+        wrong(1, 18, HEAD + "xeserve 1 2 3 below 4 after 5;");
+        wrong(1, 18, HEAD + "xarget 9 5;");
+        wrong(1, 18, HEAD + "xind 9 5;");
+        wrong(1, 18, HEAD + "xpot 1 2 3;");
+        wrong(1, 18, HEAD + "xool 5;");
         wrong(1, 48, HEAD + "reserve 1 2 3 below 4 after 5 jammed;");
         wrong(1, 30, HEAD + "layer 1 2 3 under 5 below 4;");
         wrong(1, 18, HEAD + "chute 1 2 3;");
@@ -285,6 +325,23 @@ public class TextsTest {
         wrong(1, 7, "capsule+900 60 10;");
         wrong(1, 4, "    \u0001capsule 900 60 10;");
         wrong(1, 18, HEAD + "cooll 5;");
+        wrong(1, 18, HEAD + "coolz 5;");
+        wrong(1, 18, HEAD + "coola 5;");
+        wrong(1, 22, HEAD + "cool`5;");
+        wrong(1, 22, HEAD + "cool{5;");
+        wrong(1, 23, HEAD + "cool /5;");
+        wrong(1, 23, HEAD + "cool :5;");
+        wrong(1, 24, HEAD + "cool 5:");
+        right(0, HEAD + "cool 09;");
+        LayeredChute object = new LayeredChute();
+        for (String earlier : new String[] {"a".repeat(600), "9".repeat(600), " ".repeat(600), ";".repeat(600)}) {
+            Check.load(object, earlier);
+            check.equal("P6 what stood there earlier does not matter", "-1 1 9",
+                    Check.load(object, "capsule 9") + " " + object.errorCode() + " " + object.errorPosition());
+            Check.play(object, earlier);
+            check.equal("P6 nor behind a word", "-1 1 14",
+                    Check.play(object, "tick 9;reserve") + " " + object.errorCode() + " " + object.errorPosition());
+        }
         wrong(1, 18, HEAD + "coo l 5;");
         wrong(1, 18, HEAD + "wi\nnd 5 5;");
         wrong(2, 23, HEAD + "wind 1000000000000 5 5;");
@@ -373,6 +430,13 @@ public class TextsTest {
         script("-1 2 7", "steer -10;");
         script("-1 1 7", "steer --9;");
         script("-1 1 0", "jam 0;");
+        script("-1 1 0", "xick 1;");
+        script("-1 1 0", "xall 1;");
+        script("-1 1 0", "xpen 0;");
+        script("-1 1 0", "xeserve;");
+        script("-1 1 0", "xut 0;");
+        script("-1 1 0", "xteer 0;");
+        script("-1 1 0", "1;");
         script("-1 1 0", "capsule 9 9 9;");
         script("-1 1 0", ";");
         script("-1 1 7", "tick 1;;");
