@@ -1594,7 +1594,7 @@ public final class LayeredChute {
             }
             int argument = takeArgument(reader, kind, layers, chutes);
             reader.takeSemicolon();
-            if (!reader.hasFailed()) {
+            if (!reader.hasFailed() && count < MOST) {
                 kinds[count] = kind;
                 arguments[count] = argument;
                 count++;
