@@ -474,15 +474,16 @@ public final class LayeredChute {
         if (world.height > world.reserve.ceiling) {
             return refuse(IS_TOO_HIGH);
         }
-        if (world.failedLayers() < world.reserve.limit) {
+        int failed = world.failedLayers();
+        if (failed < world.reserve.limit) {
             return refuse(HAS_TOO_FEW_FAILED);
         }
         if (world.firstLayerThatMayOpen() != NONE) {
             return refuse(LAYER_COMES_FIRST);
         }
         beginAct();
-        world.openTheReserve();
-        return world.failedLayers();
+        world.openTheReserve(failed);
+        return failed;
     }
 
     public int cut(int chute) throws IndexOutOfBoundsException {
@@ -1121,9 +1122,9 @@ public final class LayeredChute {
             }
         }
 
-        void openTheReserve() {
+        void openTheReserve(int failed) {
             reserve.state = Chute.OPEN;
-            events.record(time, EventLog.RESERVE_OPENED, layerCount, failedLayers());
+            events.record(time, EventLog.RESERVE_OPENED, layerCount, failed);
         }
 
         void cutAway(int number) {
@@ -1167,11 +1168,11 @@ public final class LayeredChute {
 
         private void openWhatMay() {
             int layer = firstLayerThatMayOpen();
+            int failed = failedLayers();
             if (layer != NONE) {
                 openLayer(layer);
-            } else if (hasReserve && reserve.isPackedAndBelowCeiling(height)
-                    && failedLayers() >= reserve.limit) {
-                openTheReserve();
+            } else if (hasReserve && reserve.isPackedAndBelowCeiling(height) && failed >= reserve.limit) {
+                openTheReserve(failed);
             }
         }
 
@@ -1436,18 +1437,14 @@ public final class LayeredChute {
                     end++;
                 }
             } else if (kind == NUMBER) {
-                takeDigits();
-            }
-        }
-
-        /** Any number of digits is allowed: the value stays where no range reaches. */
-        private void takeDigits() {
-            value = bytes[start] - '0';
-            while (end < length && kinds[end] == NUMBER) {
-                if (value < MOST_VALUE) {
-                    value = value * 10 + bytes[end] - '0';
+                value = bytes[start] - '0';
+                while (end < length && kinds[end] == NUMBER) {
+                    // Any number of digits is allowed: the value stays where no range reaches.
+                    if (value < MOST_VALUE) {
+                        value = value * 10 + bytes[end] - '0';
+                    }
+                    end++;
                 }
-                end++;
             }
         }
     }
