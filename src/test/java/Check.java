@@ -1,6 +1,10 @@
+import java.util.function.IntUnaryOperator;
 import java.util.function.Supplier;
 
-/** What the tests share: it counts right and wrong answers and makes objects from texts. */
+/**
+ * What the tests share: it counts right and wrong answers and makes objects from texts. An object is asked at most
+ * 512 times, since what it answers later is free: what tells much of it (everything, world) is asked sparingly.
+ */
 final class Check {
     private final String title;
     private int right;
@@ -27,9 +31,25 @@ final class Check {
         equal(what + " changes nothing", everything(maker.get()), everything(object));
     }
 
+    /** The act is refused with this reason, which is counted; but for that the object is like a twin without the act. */
+    void refused(String what, int reason, Supplier<LayeredChute> maker, Call act) {
+        LayeredChute object = maker.get();
+        LayeredChute twin = maker.get();
+        equal(what, "-" + reason, outcome(act, object));
+        for (int number = 0; number <= 9; number++) {
+            int due = twin.account(number) + (number == reason ? 1 : 0);
+            equal(what + ", account " + number, due, object.account(number));
+        }
+        equal(what + " changes nothing but the accounts", allButAccounts(twin), allButAccounts(object));
+    }
+
+    boolean hasPassed() {
+        return wrong == 0 && right > 0;
+    }
+
     void end() {
         System.out.println(title + ": " + right + " right, " + wrong + " wrong");
-        if (wrong > 0 || right == 0) {
+        if (!hasPassed()) {
             System.exit(1);
         }
     }
@@ -121,43 +141,94 @@ final class Check {
         return text.toString();
     }
 
+    /** The numbers of capsule(). */
+    static String capsule(LayeredChute object) {
+        return numbers(9, what -> object.capsule(what));
+    }
+
+    /** The numbers of size(). */
+    static String sizes(LayeredChute object) {
+        return numbers(16, what -> object.size(what));
+    }
+
+    /** The numbers of chute(). */
+    static String chute(LayeredChute object, int chute) {
+        return numbers(8, what -> object.chute(chute, what));
+    }
+
+    /** The strengths of the lines of a chute. */
+    static String lines(LayeredChute object, int chute) {
+        return numbers(object.chute(chute, 1), line -> object.line(chute, line));
+    }
+
+    static String whys(LayeredChute object) {
+        return numbers(object.size(0), layer -> object.why(layer));
+    }
+
+    static String spot(LayeredChute object, int spot) {
+        return numbers(3, what -> object.spot(spot, what));
+    }
+
+    static String accounts(LayeredChute object) {
+        return numbers(10, what -> object.account(what));
+    }
+
+    /** A space between two numbers. */
+    private static String numbers(int count, IntUnaryOperator asked) {
+        StringBuilder text = new StringBuilder();
+        for (int i = 0; i < count; i++) {
+            text.append(i > 0 ? " " : "").append(asked.applyAsInt(i));
+        }
+        return text.toString();
+    }
+
+    /** What reading a text as a setup answers: load(), errorCode() and errorPosition(). */
+    static String loaded(String text) {
+        LayeredChute object = new LayeredChute();
+        return load(object, text) + " " + object.errorCode() + " " + object.errorPosition();
+    }
+
+    /** What reading a text as a script answers: play(), errorCode() and errorPosition(). */
+    static String played(LayeredChute object, String text) {
+        return play(object, text) + " " + object.errorCode() + " " + object.errorPosition();
+    }
+
+    /** A short look at what acts change, for those who ask often. */
+    static String brief(LayeredChute object) {
+        return fall(object) + " " + object.capsule(5) + " " + states(object) + " " + object.size(2) + " "
+                + object.size(8) + " " + object.size(9) + " " + object.account(0);
+    }
+
     /** All that undo() and restore() bring back, as far as it can be asked for. */
     static String world(LayeredChute object) {
         StringBuilder text = new StringBuilder();
-        for (int what = 0; what <= 8; what++) {
-            text.append(object.capsule(what)).append(' ');
-        }
+        text.append(capsule(object)).append('|');
         for (int what = 0; what <= 15; what++) {
-            if (what != 9) {
-                text.append(object.size(what)).append(' ');
-            }
+            text.append(what == 9 ? 0 : object.size(what)).append(' ');
         }
         int chutes = object.size(0) + object.size(1);
         for (int chute = 0; chute < chutes; chute++) {
-            text.append("| ");
-            for (int what = 0; what <= 7; what++) {
-                text.append(object.chute(chute, what)).append(' ');
-            }
+            text.append('|').append(chute(object, chute));
         }
         int[] heights = {0, 500, 1000, 2000, 30000};
         for (int height : heights) {
-            text.append(object.targetAt(height)).append('/').append(object.windAt(height)).append(' ');
+            text.append('|').append(object.targetAt(height)).append('/').append(object.windAt(height));
         }
         for (int spot = 0; spot < object.size(4); spot++) {
-            text.append(object.spot(spot, 0)).append(' ').append(object.spot(spot, 1)).append(' ')
-                    .append(object.spot(spot, 2)).append(' ');
+            text.append('|').append(spot(object, spot));
         }
-        return text.append(events(object)).toString();
+        return text.append('|').append(events(object)).toString();
     }
 
     /** Everything that can be asked for; the acts that can be undone are undone by it. */
     static String everything(LayeredChute object) {
+        return "accounts " + accounts(object) + '\n' + allButAccounts(object);
+    }
+
+    static String allButAccounts(LayeredChute object) {
         StringBuilder text = new StringBuilder(world(object));
         text.append("\ntext ").append(object.append(0, 0, 0, 0, 0)).append(" error ")
                 .append(object.errorCode()).append(' ').append(object.errorPosition());
-        for (int what = 0; what <= 9; what++) {
-            text.append(' ').append(object.account(what));
-        }
         text.append("\noutput ");
         int index = 0;
         String next = outcome(o -> o.output(0), object);

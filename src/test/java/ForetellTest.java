@@ -1,3 +1,5 @@
+import java.util.function.Predicate;
+
 /** Promises 23 to 31: foretelling. AIR is 100 below 400 metres. */
 public class ForetellTest {
     private static final String LAYER = "layer 10 1 9999 below 30000 under 400;";
@@ -25,14 +27,14 @@ public class ForetellTest {
     }
 
     /** SPEED becomes 26, 28 and 29: it lands behind 3 seconds. */
-    private static LayeredChute low() {
+    static LayeredChute low() {
         LayeredChute object = Check.made("capsule 60 20 10;" + LAYER + SPOTS);
         object.open(0);
         return object;
     }
 
     /** Eight huge layers at a mass of 1, all open: it takes some 6000 seconds. */
-    private static LayeredChute feather(int height, String lines) {
+    static LayeredChute feather(int height, String lines) {
         LayeredChute object = Check.made("capsule " + height + " 5 1;"
                 + ("layer 99 " + lines + " below 30000 under 400;").repeat(8) + "spot 0 9 9;spot -999 999 99;spot -9999 -10 9;spot 10 9999 9;");
         for (int layer = 0; layer < 8; layer++) {
@@ -42,7 +44,7 @@ public class ForetellTest {
     }
 
     /** landIn, landAt, landSpeed and landResult. */
-    private static String landing(LayeredChute object) {
+    static String landing(LayeredChute object) {
         return object.landIn() + " " + Check.outcome(o -> o.landAt(), object) + " " + object.landSpeed() + " "
                 + object.landResult();
     }
@@ -168,7 +170,7 @@ public class ForetellTest {
     }
 
     /** All its chutes tear at once in thick air; then it falls fast, and HEAT rises. */
-    private static LayeredChute coolFeather() {
+    static LayeredChute coolFeather() {
         LayeredChute object = Check.made("capsule 30000 5 4;"
                 + "layer 99 1 97 below 30000 under 400;".repeat(8) + "cool 0;");
         for (int layer = 0; layer < 8; layer++) {
@@ -177,7 +179,7 @@ public class ForetellTest {
         return object;
     }
 
-    private static int untilTorn(LayeredChute object) {
+    static int untilTorn(LayeredChute object) {
         int seconds = 0;
         while (object.chute(0, 5) == 1 && seconds < 6000) {
             seconds += object.tick(100);
@@ -191,7 +193,7 @@ public class ForetellTest {
     }
 
     /** A layer has failed; the reserve opens when the seven others have brought it down to its CEILING. */
-    private static LayeredChute reservedFeather() {
+    static LayeredChute reservedFeather() {
         LayeredChute object = Check.made("capsule 30000 5 1;" + "layer 99 12 9999 below 30000 under 400;".repeat(7)
                 + "layer 1 1 1 below 30000 under 400 jammed;reserve 9 9 999 below 12000 after 1;target 30000 1;");
         for (int layer = 0; layer < 8; layer++) {
@@ -200,7 +202,7 @@ public class ForetellTest {
         return object;
     }
 
-    private static void pass(LayeredChute object, int seconds) {
+    static void pass(LayeredChute object, int seconds) {
         for (int left = seconds; left > 0; left -= 200) {
             object.tick(Math.min(200, left));
         }
@@ -379,44 +381,52 @@ public class ForetellTest {
             "capsule 2500 250 40;target 2500 30;layer 4 4 40 below 2400 under 260;layer 8 4 60 below 2300 under 240;"
                 + "layer 16 8 80 below 2200 under 200;reserve 30 8 99 below 2000 after 1;spot 0 0 40;"};
         for (String setup : setups) {
-            LayeredChute object = Check.made(setup);
-            for (int round = 0; round < 30 && object.capsule(0) > 0; round++) {
-                foretoldIsDone(setup.substring(0, 16) + " at " + object.capsule(6), object);
-                object.tick(3);
+            int all = Check.made(setup).landIn();
+            for (int ahead = 0; ahead < all; ahead += 3) {
+                foretoldIsDone(setup, ahead);
             }
         }
     }
 
-    private void foretoldIsDone(String what, LayeredChute object) {
+    /** What is foretold behind some seconds is what is done then. */
+    private void foretoldIsDone(String setup, int ahead) {
+        LayeredChute object = behind(setup, ahead);
         String due = landing(object) + " " + fails(object) + " " + object.reserveIn() + " " + object.hottest();
-        object.save(0);
-        int chutes = object.size(0) + 1;
-        int[] failed = new int[chutes];
-        java.util.Arrays.fill(failed, -1);
-        int opened = -1;
-        int hottest = object.capsule(4);
-        int seconds = 0;
-        while (seconds <= 3000) {
-            for (int chute = 0; chute < chutes; chute++) {
-                int state = object.chute(chute, 5);
-                failed[chute] = failed[chute] < 0 && (state == 2 || state == 3) ? seconds : failed[chute];
-            }
-            opened = opened < 0 && object.chute(chutes - 1, 5) == 1 ? seconds : opened;
-            hottest = Math.max(hottest, object.capsule(4));
-            if (object.capsule(0) == 0) {
-                break;
-            }
-            object.tick(1);
-            seconds++;
-        }
+        int reserve = object.size(0);
         StringBuilder done = new StringBuilder();
-        done.append(seconds).append(' ').append(object.capsule(2)).append(' ').append(object.capsule(1)).append(' ')
-                .append(object.capsule(8)).append(' ');
-        for (int second : failed) {
-            done.append(second).append(' ');
+        LayeredChute falling = behind(setup, ahead);
+        int hottest = falling.capsule(4);
+        int seconds = 0;
+        while (falling.capsule(0) > 0 && seconds < 170) {
+            seconds += falling.tick(1);
+            hottest = Math.max(hottest, falling.capsule(4));
         }
-        check.equal("foretold, " + what, due, done.append(opened).append(' ').append(hottest).toString());
-        object.restore(0);
+        done.append(seconds).append(' ').append(falling.capsule(2)).append(' ').append(falling.capsule(1)).append(' ')
+                .append(falling.capsule(8));
+        for (int chute = 0; chute <= reserve; chute++) {
+            int watched = chute;
+            done.append(' ').append(until(behind(setup, ahead), o -> o.chute(watched, 5) / 2 == 1));
+        }
+        done.append(' ').append(until(behind(setup, ahead), o -> o.chute(reserve, 5) == 1)).append(' ').append(hottest);
+        check.equal("foretold, " + setup.substring(0, 16) + " behind " + ahead, due, done.toString());
+    }
+
+    private static LayeredChute behind(String setup, int seconds) {
+        LayeredChute object = Check.made(setup);
+        pass(object, seconds);
+        return object;
+    }
+
+    /** Behind how many seconds it is so; -1 if it is not so until the capsule lands. */
+    private static int until(LayeredChute object, Predicate<LayeredChute> isSo) {
+        int seconds = 0;
+        while (!isSo.test(object)) {
+            if (object.capsule(0) == 0 || seconds >= 170) {
+                return -1;
+            }
+            seconds += object.tick(1);
+        }
+        return seconds;
     }
 
     private void changesNothing() {

@@ -1,5 +1,4 @@
-import java.util.ArrayList;
-import java.util.List;
+import java.util.function.Supplier;
 
 /** Promises 40 to 44: output, undo and saved states. */
 public class KeepTest {
@@ -88,28 +87,41 @@ public class KeepTest {
     }
 
     private void undo() {
-        LayeredChute object = made();
-        check.equal("P42 no act yet", "IllegalStateException", Check.outcome(o -> o.undo(), object));
-        List<String> worlds = new ArrayList<>();
-        for (int i = 0; i < 9; i++) {
-            worlds.add(Check.world(object));
-            object.tick(1);
+        check.equal("P42 no act yet", "IllegalStateException", Check.outcome(o -> o.undo(), made()));
+        for (int undone = 1; undone <= 8; undone++) {
+            LayeredChute object = ticked(9);
+            check.equal("P42 8 of 9 can be undone", 8, object.size(9));
+            for (int left = 7; left >= 8 - undone; left--) {
+                check.equal("P42 left to undo", left, object.undo());
+                check.equal("P42 size(9)", left, object.size(9));
+            }
+            check.equal("P42 as it was, undone " + undone, Check.world(ticked(9 - undone)), Check.world(object));
         }
-        check.equal("P42 8 of 9 can be undone", 8, object.size(9));
-        for (int left = 7; left >= 0; left--) {
-            check.equal("P42 left to undo", left, object.undo());
-            check.equal("P42 as it was ahead of act " + (left + 1), worlds.get(left + 1), Check.world(object));
-            check.equal("P42 size(9)", left, object.size(9));
+        LayeredChute object = ticked(9);
+        for (int i = 0; i < 8; i++) {
+            object.undo();
         }
         check.equal("P42 the first of the nine stays", "IllegalStateException", Check.outcome(o -> o.undo(), object));
-        check.equal("P42 it is as it was behind it", worlds.get(1), Check.world(object));
         check.equal("P42 acts that were undone count", 9, object.account(0));
         object.tick(2);
         object.open(0);
         check.equal("P42 new acts", 1, object.undo());
         check.equal("P42 new acts are undone", 0, object.undo());
-        check.equal("P42 back again", worlds.get(1), Check.world(object));
+        check.equal("P42 back again", Check.world(ticked(1)), Check.world(object));
         check.thrown("P42 no act to undo", IllegalStateException.class, KeepTest::made, o -> o.undo());
+        undoIsMixed();
+    }
+
+    private static LayeredChute ticked(int times) {
+        LayeredChute object = made();
+        for (int i = 0; i < times; i++) {
+            object.tick(1);
+        }
+        return object;
+    }
+
+    private void undoIsMixed() {
+        LayeredChute object = made();
         for (int i = 0; i < 25; i++) {
             object.setTarget(390, 1 + i);
             if (i % 3 == 2) {
@@ -124,71 +136,73 @@ public class KeepTest {
     }
 
     private void undoEachAct() {
+        undone("tick", KeepTest::made, o -> o.tick(3));
+        undone("tick until it lands", KeepTest::made, o -> o.tick(200));
+        undone("fallTo", KeepTest::made, o -> o.fallTo(100));
+        undone("open", KeepTest::made, o -> o.open(0));
+        undone("open, jammed", KeepTest::made, o -> o.open(1));
+        undone("setTarget", KeepTest::made, o -> o.setTarget(390, 5));
+        undone("setTarget of another speed", KeepTest::made, o -> o.setTarget(200, 5));
+        undone("setTarget that changes nothing", KeepTest::made, o -> o.setTarget(200, 10));
+        undone("jam", KeepTest::made, o -> o.jam(0, true));
+        undone("jam that changes nothing", KeepTest::made, o -> o.jam(0, false));
+        undone("openReserve", KeepTest::opened, o -> o.openReserve());
+        undone("cut", KeepTest::opened, o -> o.cut(0));
+        undone("steer", KeepTest::opened, o -> o.steer(-4));
+        undone("steer that changes nothing", KeepTest::opened, o -> o.steer(0));
+        undone("tick, with lines that tear", KeepTest::opened, o -> o.tick(1));
+        undone("tick, with all that can be", KeepTest::steered, o -> o.tick(4));
+        undone("setTarget when it has landed", KeepTest::landed, o -> o.setTarget(1, 1));
+    }
+
+    private static LayeredChute opened() {
         LayeredChute object = made();
-        undone("tick", object, o -> o.tick(3));
-        undone("tick until it lands", object, o -> o.tick(200));
-        undone("fallTo", object, o -> o.fallTo(100));
-        undone("open", object, o -> o.open(0));
-        undone("open, jammed", object, o -> o.open(1));
-        undone("setTarget", object, o -> o.setTarget(390, 5));
-        undone("setTarget of another speed", object, o -> o.setTarget(200, 5));
-        undone("setTarget that changes nothing", object, o -> o.setTarget(200, 10));
-        undone("jam", object, o -> o.jam(0, true));
-        undone("jam that changes nothing", object, o -> o.jam(0, false));
         object.open(0);
         object.open(1);
         object.open(2);
-        undone("openReserve", object, o -> o.openReserve());
-        object.openReserve();
-        undone("cut", object, o -> o.cut(0));
-        undone("steer", object, o -> o.steer(-4));
-        undone("steer that changes nothing", object, o -> o.steer(0));
-        undone("tick, with lines that tear", object, o -> o.tick(1));
-        object.steer(5);
-        undone("tick, with all that can be", object, o -> o.tick(4));
-        object.fallTo(0);
-        undone("setTarget when it has landed", object, o -> o.setTarget(1, 1));
+        return object;
     }
 
-    private void undone(String what, LayeredChute object, Check.Call call) {
+    private static LayeredChute steered() {
+        LayeredChute object = opened();
+        object.openReserve();
+        object.steer(5);
+        return object;
+    }
+
+    private static LayeredChute landed() {
+        LayeredChute object = steered();
+        object.fallTo(0);
+        return object;
+    }
+
+    private void undone(String what, Supplier<LayeredChute> maker, Check.Call call) {
+        LayeredChute object = maker.get();
         String world = Check.world(object);
         int undoable = object.size(9);
         boolean isDone = Integer.parseInt(Check.outcome(call, object)) >= 0;
         check.equal("P42 " + what + " is done", true, isDone);
-        if (what.contains("nothing")) {
-            check.equal("P42 " + what, world, Check.world(object));
-        } else {
-            check.equal("P42 " + what + " changes something", false, world.equals(Check.world(object)));
-        }
-        check.equal("P42 " + what + ", left", Math.min(7, undoable), object.undo());
+        boolean isSame = world.equals(Check.world(object));
+        check.equal("P42 " + what + " changes something", !what.contains("nothing"), !isSame);
+        check.equal("P42 " + what + ", left", undoable, object.undo());
         check.equal("P42 " + what + " is undone", world, Check.world(object));
     }
 
     /** The latest 30 events push out the earliest ones: these must come back, too. */
     private void eventsComeBack() {
-        StringBuilder setup = new StringBuilder("capsule 30000 40 99;");
-        for (int layer = 0; layer < 8; layer++) {
-            setup.append("layer 1 12 ").append(1 + layer).append(" below 30000 under 400;");
+        check.equal("there are more than 30 events", 30, tearing(8).size(8));
+        for (int undone = 1; undone <= 8; undone++) {
+            LayeredChute object = tearing(8);
+            for (int i = 0; i < undone; i++) {
+                object.undo();
+            }
+            check.equal("P42 the events come back, " + undone, Check.events(tearing(8 - undone)),
+                    Check.events(object));
         }
-        LayeredChute object = Check.made(setup.toString());
-        for (int layer = 0; layer < 8; layer++) {
-            object.open(layer);
-        }
-        String early = Check.events(object);
-        object.save(0);
-        object.tick(20);
-        List<String> events = new ArrayList<>();
-        for (int i = 0; i < 8; i++) {
-            events.add(Check.events(object));
-            check.equal("an act that is done", true, (i % 2 == 0 ? object.tick(3) : object.steer(i)) >= 0);
-        }
-        check.equal("there are more than 30 events", 30, object.size(8));
+        String early = Check.events(tearing(-1));
+        LayeredChute object = tearing(8);
         String late = Check.events(object);
         object.save(1);
-        for (int i = 7; i >= 0; i--) {
-            object.undo();
-            check.equal("P42 the events come back, " + i, events.get(i), Check.events(object));
-        }
         object.restore(0);
         check.equal("P44 the early events", early, Check.events(object));
         object.cut(0);
@@ -198,10 +212,41 @@ public class KeepTest {
         Check.load(object, "capsule 30 20 10;");
         object.tick(1);
         check.equal("other events", "0 6 -1 3", Check.events(object));
-        object.restore(0);
-        check.equal("P44 the early events behind another setup", early, Check.events(object));
-        object.restore(1);
-        check.equal("P44 the late events behind another setup", late, Check.events(object));
+        eventsComeBackBehindASetup(early, late);
+    }
+
+    private void eventsComeBackBehindASetup(String early, String late) {
+        for (int slot = 0; slot <= 1; slot++) {
+            LayeredChute object = tearing(8);
+            object.save(1);
+            Check.load(object, "capsule 30 20 10;");
+            object.tick(1);
+            object.restore(slot);
+            check.equal("P44 the events behind another setup, " + slot, slot == 0 ? early : late, Check.events(object));
+        }
+    }
+
+    /** Eight layers of which lines tear, saved early in slot 0; then 20 seconds and so many acts. */
+    private static LayeredChute tearing(int acts) {
+        StringBuilder setup = new StringBuilder("capsule 30000 40 99;");
+        for (int layer = 0; layer < 8; layer++) {
+            setup.append("layer 1 12 ").append(1 + layer).append(" below 30000 under 400;");
+        }
+        LayeredChute object = Check.made(setup.toString());
+        for (int layer = 0; layer < 8; layer++) {
+            object.open(layer);
+        }
+        object.save(0);
+        if (acts >= 0) {
+            object.tick(20);
+        }
+        for (int i = 0; i < acts; i++) {
+            int answer = i % 2 == 0 ? object.tick(3) : object.steer(i);
+            if (answer < 0) {
+                throw new AssertionError("act " + i + " is refused");
+            }
+        }
+        return object;
     }
 
     private void undoOfWhatIsNoAct() {
@@ -238,7 +283,7 @@ public class KeepTest {
         check.equal("P42 the text stays", 4, object.append(0x64000000, 0, 0, 0, 0));
         check.equal("P42 the error stays", "1 7", object.errorCode() + " " + object.errorPosition());
         check.equal("P42 the output stays", "O12", Check.outputOf(object, 3));
-        check.equal("P42 the accounts stay", "1 0 0 0 0 0 0 0 1 0", StateTest.accounts(object));
+        check.equal("P42 the accounts stay", "1 0 0 0 0 0 0 0 1 0", Check.accounts(object));
         check.equal("P42 the layer is packed", 0, object.chute(0, 5));
         check.equal("P42 the saved state stays", "0 1", object.restore(1) + " " + object.chute(0, 5));
     }
@@ -313,7 +358,7 @@ public class KeepTest {
         check.equal("P44 the text stays", 4, object.append(0x64000000, 0, 0, 0, 0));
         check.equal("P44 the error stays", "1 7", object.errorCode() + " " + object.errorPosition());
         check.equal("P44 the output stays", "O12", Check.outputOf(object, 3));
-        check.equal("P44 the accounts stay", "1 0 0 0 0 0 0 0 1 0", StateTest.accounts(object));
+        check.equal("P44 the accounts stay", "1 0 0 0 0 0 0 0 1 0", Check.accounts(object));
         check.equal("P44 the layer is packed", 0, object.chute(0, 5));
         check.equal("P44 the other saved state stays", "0 1", object.restore(1) + " " + object.chute(0, 5));
     }

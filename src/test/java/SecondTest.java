@@ -326,36 +326,39 @@ public class SecondTest {
     }
 
     private void eventsAreKept() {
+        List<String> all = new ArrayList<>();
+        for (int time = 0; time <= 40; time++) {
+            LayeredChute object = slowlyTorn(time);
+            addLatestEvents(time - 1, object, all);
+            List<String> kept = all.subList(Math.max(0, all.size() - 30), all.size());
+            check.equal("the latest 30 events at " + time, String.join(", ", kept), Check.events(object));
+            check.equal("how many are kept at " + time, kept.size(), object.size(8));
+            check.equal("no 31st event at " + time, "NoSuchElementException",
+                    Check.outcome(o -> o.event(30, 0), object));
+        }
+        check.equal("there were more than 50 events", true, all.size() > 50);
+    }
+
+    /** Eight layers of which lines tear now and then, behind so many seconds. */
+    private static LayeredChute slowlyTorn(int seconds) {
         StringBuilder setup = new StringBuilder("capsule 30000 40 99;");
         for (int layer = 0; layer < 8; layer++) {
             setup.append("layer 1 12 ").append(1 + layer).append(" below 30000 under 400;");
         }
         LayeredChute object = opened(setup.toString());
-        List<String> all = new ArrayList<>();
-        addEventsOf(0, object, all);
-        for (int time = 0; time < 40; time++) {
+        for (int time = 0; time < seconds; time++) {
             object.steer(Math.max(0, time - 30));
             object.tick(1);
-            addEventsOf(time, object, all);
-            List<String> kept = all.subList(Math.max(0, all.size() - 30), all.size());
-            check.equal("the latest 30 events at " + time, String.join(", ", kept), Check.events(object));
-            check.equal("how many are kept at " + time, kept.size(), object.size(8));
         }
-        check.equal("there were more than 50 events", true, all.size() > 50);
-        check.equal("no 31st event", "NoSuchElementException", Check.outcome(o -> o.event(30, 0), object));
+        return object;
     }
 
-    /** Adds the latest events of this time that are not there yet; in a second there are at most 30. */
-    private static void addEventsOf(int time, LayeredChute object, List<String> all) {
-        List<String> latest = new ArrayList<>();
+    /** Adds the events of the latest second, or those of the start; in a second there are at most 30. */
+    private static void addLatestEvents(int time, LayeredChute object, List<String> all) {
         for (int i = 0; i < object.size(8); i++) {
-            if (object.event(i, 0) == time) {
-                latest.add(Check.event(object, i));
-            }
-        }
-        for (String event : latest) {
-            if (!all.contains(event)) {
-                all.add(event);
+            boolean isOpening = object.event(i, 1) == 0;
+            if (isOpening ? time < 0 : object.event(i, 0) == time) {
+                all.add(Check.event(object, i));
             }
         }
     }

@@ -1,6 +1,6 @@
 /** Promises 7 to 22: what there is. AIR is 100 below 400 metres. */
 public class StateTest {
-    private static final String BUSY = "capsule 390 20 10;"
+    static final String BUSY = "capsule 390 20 10;"
             + "layer 10 4 9999 below 390 under 20;"
             + "layer 9 2 8 below 390 under 20 jammed;"
             + "layer 18 12 1 below 390 under 400;"
@@ -53,21 +53,13 @@ public class StateTest {
         check.thrown(what, IndexOutOfBoundsException.class, StateTest::busy, call);
     }
 
-    private static String capsule(LayeredChute object) {
-        StringBuilder text = new StringBuilder();
-        for (int what = 0; what <= 8; what++) {
-            text.append(what > 0 ? " " : "").append(object.capsule(what));
-        }
-        return text.toString();
-    }
-
     private void capsule() {
         LayeredChute object = Check.made("capsule 12000 400 99;wind 0 4;layer 1 1 9999 below 30000 under 400;");
-        check.equal("P7 at first", "12000 400 0 99 0 0 0 70 0", capsule(object));
+        check.equal("P7 at first", "12000 400 0 99 0 0 0 70 0", Check.capsule(object));
         object.open(0);
         object.steer(-3);
         object.tick(1);
-        check.equal("P7 behind a second", "11623 377 1 99 79 -3 1 71 0", capsule(object));
+        check.equal("P7 behind a second", "11623 377 1 99 79 -3 1 71 0", Check.capsule(object));
         object.fallTo(0);
         check.equal("P7 landed", "0 100 3", object.capsule(0) + " " + object.capsule(7) + " " + object.capsule(8));
         check.equal("P7 AIR at 399", 100, Check.made("capsule 399 0 1;").capsule(7));
@@ -78,31 +70,23 @@ public class StateTest {
         }
     }
 
-    private static String size(LayeredChute object) {
-        StringBuilder text = new StringBuilder();
-        for (int what = 0; what <= 15; what++) {
-            text.append(what > 0 ? " " : "").append(object.size(what));
-        }
-        return text.toString();
-    }
-
     private void size() {
         LayeredChute object = busy();
         check.equal("P8 the fall", "373 17 4 0 1", Check.fall(object));
-        check.equal("P8 everything", "5 1 2 2 3 7 3 1 7 7 27 21 3 3 17 0", size(object));
+        check.equal("P8 everything", "5 1 2 2 3 7 3 1 7 7 27 21 3 3 17 0", Check.sizes(object));
         object.cut(2);
-        check.equal("P8 a chute cut away of which lines tore", "5 1 2 2 3 7 2 1 8 8 27 12 3 12 17 0", size(object));
+        check.equal("P8 a chute cut away of which lines tore", "5 1 2 2 3 7 2 1 8 8 27 12 3 12 17 0", Check.sizes(object));
         object.cut(0);
         object.cut(5);
-        check.equal("P8 all are cut away", "5 1 2 2 3 7 0 1 10 8 27 3 3 21 17 0", size(object));
-        check.equal("P8 a new object", "0 0 0 0 0 20 0 0 0 0 0 0 0 0 0 0", size(new LayeredChute()));
+        check.equal("P8 all are cut away", "5 1 2 2 3 7 0 1 10 8 27 3 3 21 17 0", Check.sizes(object));
+        check.equal("P8 a new object", "0 0 0 0 0 20 0 0 0 0 0 0 0 0 0 0", Check.sizes(new LayeredChute()));
         LayeredChute torn = Check.made("capsule 399 20 10;layer 99 4 1 below 399 under 400;layer 9 9 9 below 399"
                 + " under 400 jammed;reserve 99 3 1 below 399 after 1;");
         torn.open(0);
         torn.open(1);
         torn.openReserve();
         torn.tick(1);
-        check.equal("P8 only layers count as failed", "2 1 0 0 0 20 0 2 7 4 16 9 7 0 30 0", size(torn));
+        check.equal("P8 only layers count as failed", "2 1 0 0 0 20 0 2 7 4 16 9 7 0 30 0", Check.sizes(torn));
         String layer = "layer 1 1 9 below 390 under 400 jammed;";
         LayeredChute many = Check.made("capsule 390 20 10;" + layer.repeat(8));
         for (int number = 0; number < 8; number++) {
@@ -121,39 +105,31 @@ public class StateTest {
         check.equal("P8 GAINs since the setup", gain + hot.capsule(1) * hot.capsule(1) * 71 / 100000, hot.size(15));
         check.equal("P8 metres since the setup", 12000 - hot.capsule(0), hot.size(14));
         Check.load(hot, "capsule 399 20 10;");
-        check.equal("P8 a new setup", "0 0 0 0 0 20 0 0 0 0 0 0 0 0 0 0", size(hot));
+        check.equal("P8 a new setup", "0 0 0 0 0 20 0 0 0 0 0 0 0 0 0 0", Check.sizes(hot));
         for (int what : new int[] {-1, 16, Integer.MIN_VALUE, Integer.MAX_VALUE}) {
             illegal("P8 size " + what, o -> o.size(what));
         }
     }
 
-    static String chute(LayeredChute object, int chute) {
-        StringBuilder text = new StringBuilder();
-        for (int what = 0; what <= 7; what++) {
-            text.append(what > 0 ? " " : "").append(object.chute(chute, what));
-        }
-        return text.toString();
-    }
-
     private void chute() {
         LayeredChute object = busy();
-        check.equal("P9 open", "10 4 9999 390 20 1 4 0", chute(object, 0));
-        check.equal("P9 jammed", "9 2 8 390 20 3 2 1", chute(object, 1));
-        check.equal("P9 some lines tore", "18 12 1 390 400 1 9 0", chute(object, 2));
-        check.equal("P9 cut away", "7 3 9999 390 400 4 0 0", chute(object, 3));
-        check.equal("P9 packed", "5 1 9999 100 10 0 1 0", chute(object, 4));
-        check.equal("P9 the reserve, open", "3 5 50 390 1 1 5 0", chute(object, 5));
+        check.equal("P9 open", "10 4 9999 390 20 1 4 0", Check.chute(object, 0));
+        check.equal("P9 jammed", "9 2 8 390 20 3 2 1", Check.chute(object, 1));
+        check.equal("P9 some lines tore", "18 12 1 390 400 1 9 0", Check.chute(object, 2));
+        check.equal("P9 cut away", "7 3 9999 390 400 4 0 0", Check.chute(object, 3));
+        check.equal("P9 packed", "5 1 9999 100 10 0 1 0", Check.chute(object, 4));
+        check.equal("P9 the reserve, open", "3 5 50 390 1 1 5 0", Check.chute(object, 5));
         object.jam(4, true);
         check.equal("P9 jammed by hand", 1, object.chute(4, 7));
         object.cut(2);
-        check.equal("P9 cut away behind tearing", "18 12 1 390 400 4 0 0", chute(object, 2));
+        check.equal("P9 cut away behind tearing", "18 12 1 390 400 4 0 0", Check.chute(object, 2));
         LayeredChute packed = Check.made(BUSY);
-        check.equal("P9 jammed, packed", "9 2 8 390 20 0 2 1", chute(packed, 1));
-        check.equal("P9 the reserve, packed", "3 5 50 390 1 0 5 0", chute(packed, 5));
+        check.equal("P9 jammed, packed", "9 2 8 390 20 0 2 1", Check.chute(packed, 1));
+        check.equal("P9 the reserve, packed", "3 5 50 390 1 0 5 0", Check.chute(packed, 5));
         LayeredChute torn = Check.made("capsule 399 20 10;layer 99 4 1 below 399 under 400;");
         torn.open(0);
         torn.tick(1);
-        check.equal("P9 failed because all its lines tore", "99 4 1 399 400 2 0 0", chute(torn, 0));
+        check.equal("P9 failed because all its lines tore", "99 4 1 399 400 2 0 0", Check.chute(torn, 0));
         for (int number : new int[] {-1, 6, Integer.MIN_VALUE, Integer.MAX_VALUE}) {
             bounds("P9 chute " + number, o -> o.chute(number, 0));
             bounds("P9 chute " + number + " comes ahead of what", o -> o.chute(number, 8));
@@ -166,29 +142,20 @@ public class StateTest {
                 Check.outcome(o -> o.chute(0, 0), new LayeredChute()));
     }
 
-    private static String lines(LayeredChute object, int chute) {
-        StringBuilder text = new StringBuilder();
-        int lines = object.chute(chute, 1);
-        for (int line = 0; line < lines; line++) {
-            text.append(line > 0 ? " " : "").append(object.line(chute, line));
-        }
-        return text.toString();
-    }
-
     private void line() {
         LayeredChute object = busy();
-        check.equal("P10 all there", "9999 10002 10005 10008", lines(object, 0));
-        check.equal("P10 jammed", "8 11", lines(object, 1));
-        check.equal("P10 some tore", "-1 -1 -1 10 13 16 19 22 25 28 31 34", lines(object, 2));
-        check.equal("P10 cut away", "9999 10002 10005", lines(object, 3));
-        check.equal("P10 packed", "9999", lines(object, 4));
-        check.equal("P10 the reserve", "50 53 56 59 62", lines(object, 5));
+        check.equal("P10 all there", "9999 10002 10005 10008", Check.lines(object, 0));
+        check.equal("P10 jammed", "8 11", Check.lines(object, 1));
+        check.equal("P10 some tore", "-1 -1 -1 10 13 16 19 22 25 28 31 34", Check.lines(object, 2));
+        check.equal("P10 cut away", "9999 10002 10005", Check.lines(object, 3));
+        check.equal("P10 packed", "9999", Check.lines(object, 4));
+        check.equal("P10 the reserve", "50 53 56 59 62", Check.lines(object, 5));
         object.cut(2);
-        check.equal("P10 some tore, then cut away", "-1 -1 -1 10 13 16 19 22 25 28 31 34", lines(object, 2));
+        check.equal("P10 some tore, then cut away", "-1 -1 -1 10 13 16 19 22 25 28 31 34", Check.lines(object, 2));
         LayeredChute torn = Check.made("capsule 399 20 10;layer 99 4 1 below 399 under 400;");
         torn.open(0);
         torn.tick(1);
-        check.equal("P10 all tore", "-1 -1 -1 -1", lines(torn, 0));
+        check.equal("P10 all tore", "-1 -1 -1 -1", Check.lines(torn, 0));
         LayeredChute hot = Check.made("capsule 12000 400 99;layer 99 1 7 below 399 under 400;");
         hot.tick(1);
         check.equal("P10 HEAT does not change it", 7, hot.line(0, 0));
@@ -267,27 +234,19 @@ public class StateTest {
                 Check.outcome(o -> o.event(0, 0), new LayeredChute()));
     }
 
-    static String accounts(LayeredChute object) {
-        StringBuilder text = new StringBuilder();
-        for (int what = 0; what <= 9; what++) {
-            text.append(what > 0 ? " " : "").append(object.account(what));
-        }
-        return text.toString();
-    }
-
     private void account() {
         LayeredChute object = busy();
-        check.equal("P15 acts that were done", "7 0 0 0 0 0 0 0 0 0", accounts(object));
+        check.equal("P15 acts that were done", "7 0 0 0 0 0 0 0 0 0", Check.accounts(object));
         object.fallTo(373);
         object.jam(0, true);
         object.open(4);
         object.setTarget(1, 1);
         object.undo();
         object.undo();
-        check.equal("P15 acts that were undone count", "8 0 1 1 1 0 0 0 0 0", accounts(object));
+        check.equal("P15 acts that were undone count", "8 0 1 1 1 0 0 0 0 0", Check.accounts(object));
         Check.outcome(o -> o.tick(0), object);
         object.landIn();
-        check.equal("P15 exceptions and foretelling do not", "8 0 1 1 1 0 0 0 0 0", accounts(object));
+        check.equal("P15 exceptions and foretelling do not", "8 0 1 1 1 0 0 0 0 0", Check.accounts(object));
         Check.load(object, "capsule 50 20 10;layer 1 1 1 below 30000 under 20;layer 1 1 1 below 30000 under 19;"
                 + "reserve 1 1 1 below 30000 after 1;");
         object.open(1);
@@ -305,7 +264,7 @@ public class StateTest {
         object.fallTo(0);
         object.tick(1);
         object.tick(1);
-        check.equal("P15 each reason", "20 2 1 1 1 1 1 1 1 1", accounts(object));
+        check.equal("P15 each reason", "20 2 1 1 1 1 1 1 1 1", Check.accounts(object));
         for (int what : new int[] {-1, 10, Integer.MIN_VALUE, Integer.MAX_VALUE}) {
             illegal("P15 account " + what, o -> o.account(what));
         }
@@ -335,25 +294,16 @@ public class StateTest {
         LayeredChute packed = Check.made("capsule 390 20 10;layer 1 1 1 below 389 under 400;"
                 + "layer 1 1 1 below 390 under 19;layer 1 1 1 below 390 under 20 jammed;layer 1 1 1 below 390 under 20;"
                 + "layer 1 1 1 below 390 under 20 jammed;");
-        check.equal("P17 not asked for", "4 5 6 6 6", whys(packed));
+        check.equal("P17 not asked for", "4 5 6 6 6", Check.whys(packed));
         packed.setTarget(390, 19);
-        check.equal("P17 asked for", "4 5 8 7 7", whys(packed));
+        check.equal("P17 asked for", "4 5 8 7 7", Check.whys(packed));
         packed.open(2);
-        check.equal("P17 asked for, the first has failed", "4 5 2 8 7", whys(packed));
+        check.equal("P17 asked for, the first has failed", "4 5 2 8 7", Check.whys(packed));
         packed.tick(1);
         check.equal("P17 its lines tore", 1, packed.why(3));
         for (int layer : new int[] {-1, 5, 6, Integer.MIN_VALUE, Integer.MAX_VALUE}) {
             bounds("P17 layer " + layer, o -> o.why(layer));
         }
-    }
-
-    private static String whys(LayeredChute object) {
-        StringBuilder text = new StringBuilder();
-        int layers = object.size(0);
-        for (int layer = 0; layer < layers; layer++) {
-            text.append(layer > 0 ? " " : "").append(object.why(layer));
-        }
-        return text.toString();
     }
 
     private void whyReserve() {
@@ -455,15 +405,15 @@ public class StateTest {
 
     private void askingChangesNothing() {
         LayeredChute object = busy();
-        size(object);
-        capsule(object);
+        Check.sizes(object);
+        Check.capsule(object);
         for (int chute = 0; chute < 6; chute++) {
-            chute(object, chute);
-            lines(object, chute);
+            Check.chute(object, chute);
+            Check.lines(object, chute);
             object.loadOn(chute);
             object.wouldTear(chute);
         }
-        whys(object);
+        Check.whys(object);
         object.whyReserve();
         object.targetAt(9);
         object.windAt(9);

@@ -148,9 +148,7 @@ public class TextsTest {
 
     /** Loads the text into an object and tells the answer, the code and the position. */
     private void setup(String due, String text) {
-        LayeredChute object = new LayeredChute();
-        check.equal("setup " + text.replace("\n", "\\n"), due, Check.load(object, text) + " " + object.errorCode() + " "
-                + object.errorPosition());
+        check.equal("setup " + text.replace("\n", "\\n"), due, Check.loaded(text));
     }
 
     private void right(int chutes, String text) {
@@ -259,20 +257,12 @@ public class TextsTest {
         wrong(1, 27, HEAD + "spot 3 5 -9;");
         LayeredChute object = Check.made(HEAD + "layer 1 2 3 below 4 under 5 jammed;layer 6 7 8 below 9 under 10;"
                 + "reserve 11 12 13 below 14 after 8;target 15 16;wind 17 -18;spot -19 20 21;cool 5;cool 22;");
-        check.equal("P3 the jammed layer", "1 2 3 4 5 0 2 1", chute(object, 0));
-        check.equal("P3 the other layer", "6 7 8 9 10 0 7 0", chute(object, 1));
-        check.equal("P3 the reserve", "11 12 13 14 8 0 12 0", chute(object, 2));
+        check.equal("P3 the jammed layer", "1 2 3 4 5 0 2 1", Check.chute(object, 0));
+        check.equal("P3 the other layer", "6 7 8 9 10 0 7 0", Check.chute(object, 1));
+        check.equal("P3 the reserve", "11 12 13 14 8 0 12 0", Check.chute(object, 2));
         check.equal("P3 target and wind", "16 -18", object.targetAt(15) + " " + object.windAt(17));
         check.equal("P3 the spot", "-19 20 21", object.spot(0, 0) + " " + object.spot(0, 1) + " " + object.spot(0, 2));
         check.equal("P3 the last COOL counts", 22, object.size(5));
-    }
-
-    private static String chute(LayeredChute object, int chute) {
-        StringBuilder text = new StringBuilder();
-        for (int what = 0; what <= 7; what++) {
-            text.append(what > 0 ? " " : "").append(object.chute(chute, what));
-        }
-        return text.toString();
     }
 
     private void setupOnceOnly() {
@@ -399,8 +389,7 @@ public class TextsTest {
     private void script(String due, String text) {
         LayeredChute object = Check.made("capsule 30000 100 10;layer 9 2 9999 below 30000 under 400;"
                 + "layer 9 2 9999 below 30000 under 400 jammed;reserve 9 3 900 below 30000 after 1;");
-        check.equal("script " + text, due, Check.play(object, text) + " " + object.errorCode() + " "
-                + object.errorPosition());
+        check.equal("script " + text, due, Check.played(object, text));
     }
 
     private void scriptRanges() {
