@@ -372,6 +372,15 @@ final class EdgeForetell {
         check.equal("none makes a difference", 9, packed.bestSlip(0));
     }
 
+    @Sentence(FORETELLING)
+    void p30UntilTheCapsuleLands(Check check) {
+        LayeredChute object = Check.made("capsule 31 20 10;layer 1 1 99 below 31 under 20;spot 0 0 9;");
+        check.equal("one metre is left behind the first second", 9, object.bestSlip(0));
+        object.open(0);
+        object.tick(1);
+        check.equal("one second is left", "1 9", object.landIn() + " " + object.bestSlip(0));
+    }
+
     @Sentence(BEST)
     void p30OfTwoTheNegativeOne(Check check) {
         // The line holds with SLIP -3 to 3; otherwise it tears, and the wind does not take the capsule along.
@@ -435,6 +444,12 @@ final class EdgeForetell {
         check.equal("without spots", 0, new LayeredChute().reachable());
         check.equal("none of one", 0, Check.made("capsule 60 20 10;spot 1 1 9;").reachable());
         check.equal("all eight", 255, Check.made("capsule 60 20 10;" + "spot 0 0 9;".repeat(8)).reachable());
+    }
+
+    @Sentence(FORETELLING)
+    void p31UntilTheCapsuleLands(Check check) {
+        check.equal("one metre is left behind the first second", 1, Check.made("capsule 31 20 10;spot 0 0 9;").reachable());
+        check.equal("it lands in the first second", 1, Check.made("capsule 30 20 10;spot 0 0 9;").reachable());
     }
 
     @Sentence(REACHABLE)

@@ -255,7 +255,25 @@ final class EdgeKeep {
 
     @Sentence("The latest 30 events are kept, in their order.")
     void p42EventsThatWereGoneComeBack(Check check) {
-        LayeredChute object = Check.made("capsule 399 20 99;" + "layer 18 12 1 below 399 under 400;".repeat(8));
+        LayeredChute object = thirtyEvents(399, 18);
+        String due = Check.events(object);
+        check.equal("30 of 30", "30 0 0 0 20", object.size(8) + " " + Check.event(object, 0));
+        object.cut(6);
+        check.equal("30 of 31", "30 0 0 1 20", object.size(8) + " " + Check.event(object, 0));
+        object.undo();
+        check.equal("the earliest one is back", due, Check.events(object));
+    }
+
+    /** Eight layers open, 3 and then 2 of the 12 lines of each tear, and six layers are cut away. */
+    private static LayeredChute thirtyEvents(int height, int area) {
+        LayeredChute object = new LayeredChute();
+        fillWithEvents(object, height, area);
+        return object;
+    }
+
+    private static void fillWithEvents(LayeredChute object, int height, int area) {
+        Check.load(object, "capsule " + height + " 20 99;"
+                + ("layer " + area + " 12 1 below 399 under 400;").repeat(8));
         for (int layer = 0; layer < 8; layer++) {
             object.open(layer);
         }
@@ -264,12 +282,6 @@ final class EdgeKeep {
         for (int chute = 0; chute < 6; chute++) {
             object.cut(chute);
         }
-        String due = Check.events(object);
-        check.equal("30 of 30", "30 0 0 0 20", object.size(8) + " " + Check.event(object, 0));
-        object.cut(6);
-        check.equal("30 of 31", "30 0 0 1 20", object.size(8) + " " + Check.event(object, 0));
-        object.undo();
-        check.equal("the earliest one is back", due, Check.events(object));
     }
 
     // ---- promises 43 and 44
@@ -364,6 +376,21 @@ final class EdgeKeep {
         Check.load(object, "capsule 9 9 9;");
         check.equal("with its chutes and all", 1, object.restore(1));
         check.equal("as it was", Check.world(busy()), Check.world(object));
+    }
+
+    @Sentence("Brings back a saved state, which stays saved; no act can be undone then.")
+    void p44AllThirtyEvents(Check check) {
+        LayeredChute object = thirtyEvents(399, 18);
+        object.save(0);
+        fillWithEvents(object, 398, 17);
+        object.cut(7);
+        String later = Check.events(object);
+        object.save(1);
+        object.restore(0);
+        check.equal("the earlier ones", Check.events(thirtyEvents(399, 18)), Check.events(object));
+        object.restore(1);
+        check.equal("the later ones", later, Check.events(object));
+        check.equal("they are other ones", false, later.equals(Check.events(thirtyEvents(399, 18))));
     }
 
     @Sentence("Returns TIME then.")

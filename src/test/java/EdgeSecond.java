@@ -224,6 +224,7 @@ final class EdgeSecond {
         check.equal("one", 26, openedAndTicked("capsule 390 20 10;" + good).capsule(1));
         check.equal("two", 22, openedAndTicked("capsule 390 20 10;" + good + good).capsule(1));
         check.equal("one that tears", 30, openedAndTicked("capsule 390 20 10;" + bad).capsule(1));
+        check.equal("one that tears adds nothing to 8, at MASS 9", 30, openedAndTicked("capsule 390 20 9;" + bad).capsule(1));
         check.equal("one and one that tears", 26, openedAndTicked("capsule 390 20 10;" + bad + good).capsule(1));
         check.equal("one of which lines tear pulls as a whole", 22,
                 openedAndTicked("capsule 390 20 10;layer 18 12 1 below 390 under 400;").capsule(1));
@@ -239,6 +240,7 @@ final class EdgeSecond {
         check.equal("BRAKE 8 / MASS 8", 29, ticked("capsule 390 20 8;").capsule(1));
         check.equal("BRAKE 8 / MASS 9", 30, ticked("capsule 390 20 9;").capsule(1));
         check.equal("BRAKE 8 / MASS 99", 30, ticked("capsule 390 20 99;").capsule(1));
+        check.equal("BRAKE 492.98 / MASS 17", 139, ticked("capsule 390 157 17;").capsule(1));
         check.equal("each PULL by itself: 2 and 2 and 4 / MASS 8", 24,
                 openedAndTicked("capsule 390 15 8;" + "layer 1 1 99 below 390 under 400;".repeat(2)).capsule(1));
         check.equal("each PULL by itself: 8 / MASS 9", 25,
@@ -293,6 +295,7 @@ final class EdgeSecond {
         check.equal("388 * 388 * 70", "388 105", two(ticked("capsule 12000 400 99;"), 1, 15));
         check.equal("just 10", "100 10", two(ticked("capsule 390 95 36;"), 1, 15));
         check.equal("cut", "99 9", two(ticked("capsule 390 93 36;"), 1, 15));
+        check.equal("127 * 127 * 93 is 3 less than 1500000", "127 14", two(ticked("capsule 2800 254 1;"), 1, 15));
     }
 
     private static String two(LayeredChute object, int capsule, int size) {

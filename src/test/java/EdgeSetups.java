@@ -63,6 +63,19 @@ final class EdgeSetups {
         check.equal("the next text is read by itself", "0 0", Check.load(object, HEAD) + " " + object.errorCode());
     }
 
+    @Sentence("The text buffer is empty afterwards, also if there is an error.")
+    void p03WhatStoodThereDoesNotMatter(Check check) {
+        for (String earlier : new String[] {"l", "9", " ", ";", "-"}) {
+            LayeredChute object = new LayeredChute();
+            Check.load(object, earlier.repeat(600));
+            check.equal("a word at the end, behind " + earlier, "-1 1 22", Check.load(object, HEAD + "cool") + " "
+                    + object.errorCode() + " " + object.errorPosition());
+            Check.load(object, earlier.repeat(600));
+            check.equal("a number at the end, behind " + earlier, "-1 1 24", Check.load(object, HEAD + "cool 9") + " "
+                    + object.errorCode() + " " + object.errorPosition());
+        }
+    }
+
     @Sentence("Returns the number of chutes; NONE if the text has an error (then nothing else changes but the results of errorCode() and errorPosition()).")
     void p03NumberOfChutes(Check check) {
         check.equal("none", "0 0 -1", Check.loaded(HEAD));

@@ -617,6 +617,10 @@ final class EdgeState {
         check.equal("PULL 0", 0, opened("99 12 9999", 0).loadOn(0));
         check.equal("PULL 1 on 12", 1, opened("1 12 9999", 10).loadOn(0));
         check.equal("PULL is cut", 1, opened("1 1 9999", 14).loadOn(0));
+        LayeredChute greatest = opened("99 1 9999", 400);
+        check.equal("the greatest PULL", 158400, greatest.loadOn(0));
+        greatest.steer(9);
+        check.equal("the greatest LOAD", 229680, greatest.loadOn(0));
     }
 
     @Sentence("with AIR, SPEED, SLIP and the lines as they are now, before any line tears")

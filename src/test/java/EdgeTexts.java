@@ -1,3 +1,5 @@
+import java.util.function.UnaryOperator;
+
 /** The edges of promises 1, 2, 5 and 6: a new object, the text buffer, error codes and error positions. */
 final class EdgeTexts {
     private static final String HEAD = "capsule 900 60 10;";
@@ -190,6 +192,78 @@ final class EdgeTexts {
         check.equal("not allowed", "-1 1 18", Check.loaded(HEAD + "tick 1;"));
         check.equal("no token", "-1 1 18", Check.loaded(HEAD + "Cool 5;"));
         check.equal("too early", "-1 1 17", Check.loaded("capsule 900 60 10"));
+    }
+
+    @Sentence("1: the token is not allowed there, a byte belongs to no token, or the text ends too early.")
+    void p05ATokenIsLeftOut(Check check) {
+        leaveOut(check, SETUP, Check::loaded);
+        leaveOut(check, SCRIPT, text -> Check.played(chutes(), text));
+    }
+
+    @Sentence("1: the token is not allowed there, a byte belongs to no token, or the text ends too early.")
+    void p05AnotherTokenStandsThere(Check check) {
+        replace(check, SETUP, Check::loaded);
+        replace(check, SCRIPT, text -> Check.played(chutes(), text));
+    }
+
+    private static final String SETUP = "capsule 900 60 10 ; layer 1 2 3 below 4 under 5 jammed ; reserve 1 2 3 below 4"
+            + " after 5 ; target 9 5 ; wind 9 - 5 ; spot - 1 2 3 ; cool 5 ;";
+    private static final String SCRIPT = "tick 1 ; fall 9 ; open 0 ; reserve ; cut 0 ; steer - 5 ;";
+
+    private static LayeredChute chutes() {
+        return Check.made("capsule 900 60 10;layer 1 2 3 below 4 under 5;reserve 1 2 3 below 4 after 5;");
+    }
+
+    /** The place of each token; and, behind the last one, where the text ends. */
+    private static int[] places(String[] tokens) {
+        int[] places = new int[tokens.length + 1];
+        for (int i = 0; i < tokens.length; i++) {
+            places[i + 1] = places[i] + tokens[i].length() + (i + 1 < tokens.length ? 1 : 0);
+        }
+        return places;
+    }
+
+    /** The next token that is no number is the first wrong one, since the numbers there fit each other's ranges. */
+    private static void leaveOut(Check check, String text, UnaryOperator<String> read) {
+        String[] tokens = text.split(" ");
+        for (int i = 0; i < tokens.length; i++) {
+            boolean canBeLeftOut = tokens[i].equals("jammed") || tokens[i].equals("-");
+            int wrong = i + 1;
+            boolean isNumber = Character.isDigit(tokens[i].charAt(0));
+            while (isNumber && Character.isDigit(tokens[wrong].charAt(0))) {
+                wrong++;
+            }
+            String[] left = new String[tokens.length - 1];
+            System.arraycopy(tokens, 0, left, 0, i);
+            System.arraycopy(tokens, i + 1, left, i, left.length - i);
+            int place = places(left)[wrong - 1];
+            String answer = read.apply(String.join(" ", left));
+            check.equal("without token " + i + ", " + tokens[i], canBeLeftOut ? "0 -1" : "1 " + place,
+                    answer.substring(answer.indexOf(' ') + 1));
+        }
+    }
+
+    private static void replace(Check check, String text, UnaryOperator<String> read) {
+        String[] tokens = text.split(" ");
+        for (int i = 0; i < tokens.length; i++) {
+            for (String other : othersOf(tokens[i])) {
+                String[] changed = tokens.clone();
+                changed[i] = other;
+                check.equal(other + " for token " + i + ", " + tokens[i], "-1 1 " + places(changed)[i],
+                        read.apply(String.join(" ", changed)));
+            }
+        }
+    }
+
+    private static String[] othersOf(String token) {
+        char first = token.charAt(0);
+        if (token.equals("jammed")) {
+            return new String[] {"xammed", "jammedx", "1", "-", "!"};
+        }
+        if (first >= 'a' && first <= 'z') {
+            return new String[] {"x" + token.substring(1), token + "x", "1", "-", ";", "!"};
+        }
+        return first == ';' ? new String[] {"x", "1", "-", "!"} : new String[] {"x", ";", "!"};
     }
 
     @Sentence("2: a number out of its range.")
