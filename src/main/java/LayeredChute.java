@@ -627,7 +627,7 @@ public final class LayeredChute {
         future.passUntil(0, FORETOLD_SECONDS);
     }
 
-    /** A layer or the reserve. */
+    /** Layers and the reserve differ only in their limit: the MOST of a layer, the FAILS of the reserve. */
     private static final class Chute {
         static final int PACKED = 0;
         static final int OPEN = 1;
@@ -639,7 +639,6 @@ public final class LayeredChute {
         int lines;
         int strength;
         int ceiling;
-        /** The MOST of a layer, the FAILS of the reserve. */
         int limit;
         int state;
         boolean isJammed;
@@ -688,7 +687,7 @@ public final class LayeredChute {
             return (long) area * air * speed * speed / 10000;
         }
 
-        /** The load of one line when the first lines, as many as are gone, share no longer. */
+        /** How many lines are gone is told, as a tear is reckoned to its end before it is done. */
         long loadOfOneLine(long pull, int slip, int gone) {
             int sharing = lines - gone;
             if (sharing < 1) {
@@ -728,7 +727,7 @@ public final class LayeredChute {
         }
     }
 
-    /** Values by heights, no two of the same height: the targets, or the winds. */
+    /** Targets and winds are kept alike: a value by a height, no two of the same height. */
     private static final class HeightTable {
         static final int MOST = 8;
 
@@ -788,7 +787,6 @@ public final class LayeredChute {
         }
     }
 
-    /** The landing spots. */
     private static final class Spots {
         static final int MOST = 8;
 
@@ -844,7 +842,7 @@ public final class LayeredChute {
         }
     }
 
-    /** The latest events, in a ring. */
+    /** A ring, so that an event that is one too many moves none of the others. */
     private static final class EventLog {
         static final int LAYER_OPENED = 0;
         static final int LINES_TORE = 1;
@@ -872,7 +870,7 @@ public final class LayeredChute {
             count = 0;
         }
 
-        void record(int time, int kind, int chute, int number) {
+        void keep(int time, int kind, int chute, int number) {
             int at = (earliest + count) % MOST * PARTS;
             parts[at] = time;
             parts[at + 1] = kind;
@@ -890,7 +888,7 @@ public final class LayeredChute {
         }
     }
 
-    /** All that undo brings back: the capsule, its chutes, and what lies round them. */
+    /** All that undo brings back, in one object: undo, saved states and foretelling are copies of it. */
     private static final class World {
         static final int MOST_LAYERS = 8;
         static final int MOST_HEAT = 999;
@@ -904,8 +902,7 @@ public final class LayeredChute {
         int height;
         int speed;
         int x;
-        /** Never 0: it divides. */
-        int mass = 1;
+        int mass;
         int heat;
         int slip;
         int time;
@@ -1115,28 +1112,27 @@ public final class LayeredChute {
             Chute chute = layers[layer];
             if (chute.isJammed) {
                 chute.state = Chute.JAMMED;
-                events.record(time, EventLog.LAYER_JAMMED, layer, speed);
+                events.keep(time, EventLog.LAYER_JAMMED, layer, speed);
             } else {
                 chute.state = Chute.OPEN;
-                events.record(time, EventLog.LAYER_OPENED, layer, speed);
+                events.keep(time, EventLog.LAYER_OPENED, layer, speed);
             }
         }
 
         void openTheReserve(int failed) {
             reserve.state = Chute.OPEN;
-            events.record(time, EventLog.RESERVE_OPENED, layerCount, failed);
+            events.keep(time, EventLog.RESERVE_OPENED, layerCount, failed);
         }
 
         void cutAway(int number) {
             Chute chute = chuteAt(number);
             chute.state = Chute.CUT;
-            events.record(time, EventLog.CHUTE_CUT, number, chute.linesThere());
+            events.keep(time, EventLog.CHUTE_CUT, number, chute.linesThere());
         }
 
-        /** Lets seconds pass until the height is at most the goal; answers how many passed. */
-        int passUntil(int goal, int mostSeconds) {
+        int passUntil(int goalHeight, int mostSeconds) {
             int seconds = 0;
-            while (height > goal && seconds < mostSeconds) {
+            while (height > goalHeight && seconds < mostSeconds) {
                 passSecond();
                 seconds++;
             }
@@ -1149,7 +1145,8 @@ public final class LayeredChute {
                 openWhatMay();
             }
             long brake = tearAndBrake(air);
-            int slowed = (int) (speed + 10 - brake / mass);
+            long slowing = mass > 0 ? brake / mass : 0;
+            int slowed = (int) (speed + 10 - slowing);
             speed = Math.max(Math.max(slowed, speed / 2), 1);
             int gain = (int) ((long) speed * speed * air / 100000);
             gained += gain;
@@ -1161,7 +1158,7 @@ public final class LayeredChute {
             height -= drop;
             fallen += drop;
             if (hasLanded()) {
-                events.record(time, EventLog.LANDED, NONE, landingResult());
+                events.keep(time, EventLog.LANDED, NONE, landingResult());
             }
             time++;
         }
@@ -1195,10 +1192,10 @@ public final class LayeredChute {
 
         private void tear(Chute chute, int number, int tearing) {
             chute.torn += tearing;
-            events.record(time, EventLog.LINES_TORE, number, tearing);
+            events.keep(time, EventLog.LINES_TORE, number, tearing);
             if (chute.linesThere() == 0) {
                 chute.state = Chute.TORN;
-                events.record(time, EventLog.CHUTE_TORE, number, chute.area);
+                events.keep(time, EventLog.CHUTE_TORE, number, chute.area);
             }
         }
 
@@ -1214,7 +1211,7 @@ public final class LayeredChute {
         }
     }
 
-    /** The states ahead of the latest acts, in a ring. */
+    /** A ring of the states ahead of acts, so that an act that is one too many moves none of the others. */
     private static final class History {
         static final int MOST = 8;
 
@@ -1269,7 +1266,7 @@ public final class LayeredChute {
         static final int TOO_MANY = 4;
 
         final int[] bytes = new int[MOST_BYTES];
-        /** Of each byte the kind of token to which it can belong. */
+        /** Told when bytes are appended, so that the calls that read tokens go less deep. */
         final int[] kinds = new int[MOST_BYTES];
         int length;
         int code;
@@ -1395,7 +1392,7 @@ public final class LayeredChute {
             failAt(start, newCode);
         }
 
-        /** Tells that the token taken last was wrong. */
+        /** That there is one too many, or one already, shows only when the token has been taken. */
         void failTaken(int newCode) {
             failAt(takenStart, newCode);
         }
@@ -1639,8 +1636,8 @@ public final class LayeredChute {
         }
     }
 
-    /** The output: at most nine chutes of at most four bytes, and the spaces between them. */
     private static final class Slate {
+        /** No output is as long: nine chutes of at most four bytes, and the spaces between them. */
         static final int MOST_BYTES = 64;
 
         final int[] bytes = new int[MOST_BYTES];

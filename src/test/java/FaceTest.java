@@ -97,7 +97,7 @@ public class FaceTest {
         check.end();
     }
 
-    private static String signature(Method method) {
+    static String signature(Method method) {
         StringBuilder text = new StringBuilder();
         text.append(method.getReturnType().getSimpleName()).append(' ').append(method.getName());
         text.append('(').append(names(method.getParameterTypes())).append(')');
